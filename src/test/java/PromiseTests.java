@@ -241,7 +241,7 @@ public final class PromiseTests {
     String[][] handles = {
       {"aBA", "BAb"}, {"Aba", "baB"}, {"ABa", "bAB"}, {"acA", "c"}, {"aA", ""}, {"bcB", "Cbc"},
       {"cBAC", null}, {"caaC", "aa"}, {"abcbA", "BabcBab"}, {"abAcC", "BabcC"}, {"bacB", null},
-      {"acbCA", "cBabC"}, {"baB", null}, {"bcacB", null}, {"abab", null}, {"aBcBA", "BAbcBAb"},
+      {"acbCA", "cBabC"}, {"baB", null}, {"bcacB", null}, {"abab", null}, {"aBcBA", "BAbcBAb"}, {"bbabA", "bbBab"},
     };
     for (String[] pair : handles) {
       LaceTangles y = laid(pair[0]);
@@ -254,6 +254,8 @@ public final class PromiseTests {
     }
     LaceTangles fits = laid("abb" + "A" + "c".repeat(24));
     due("handle() to 30", fits.handle(), 30);
+    LaceTangles fitsBehind = laid("b".repeat(24) + "abbA");
+    due("handle() to 30 behind others", fitsBehind.handle(), 30);
     LaceTangles full = laid("abb" + "A" + "c".repeat(25));
     badState(full, "handle() to 31", full::handle);
     LaceTangles none = new LaceTangles();
@@ -334,6 +336,11 @@ public final class PromiseTests {
     type(x, "ABCabc");
     due("lace()", x.lace(), 6);
     dueRow(x, "cABCabc");
+    LaceTangles stale = new LaceTangles();
+    type(stale, "a3");
+    stale.clearBuffer();
+    type(stale, "a");
+    due("lace() without the figure that was cleared", stale.lace(), 1);
   }
 
   private static void promise13() {
@@ -481,6 +488,7 @@ public final class PromiseTests {
   private static void promise21() {
     dueCounts(new LaceTangles(), 0, 100, 0, 0, 0, -1, -1, 0);
     dueCounts(laid("abCA"), 4, 100, 0, 2, 14, 0, 3, 4);
+    dueCounts(laid("cab"), 3, 103, 0, 3, 14, -1, -1, 3);
     dueCounts(laid("cc"), 2, 102, 0, 2, 8, -1, -1, 2);
     dueCounts(laid("baBAAbcA"), 8, 100, 0, 4, 14, 1, 3, 6);
     LaceTangles x = laid("abAcC");

@@ -98,9 +98,43 @@ public final class RulesTests {
     check("the text has signs above 127", text.chars().allMatch(c -> c < 128));
   }
 
+  /** All calls of a run live in one room, so even 512 of the dearest ones must make next to nothing. */
+  private static void room() {
+    LaceTangles x = new LaceTangles();
+    x.keep();
+    for (int place = 0; place < 28; place++) {
+      x.cross(place % 3 == 0 ? 1 : place % 3 == 1 ? -2 : 3);
+    }
+    calls(x);
+    com.sun.management.ThreadMXBean bean =
+        (com.sun.management.ThreadMXBean) java.lang.management.ManagementFactory.getThreadMXBean();
+    long before = bean.getCurrentThreadAllocatedBytes();
+    for (int times = 0; times < 512; times++) {
+      calls(x);
+    }
+    long made = bean.getCurrentThreadAllocatedBytes() - before;
+    check("512 rounds of calls made " + made + " bytes", made < 100_000);
+  }
+
+  private static void calls(LaceTangles x) {
+    x.digest();
+    x.same();
+    x.pair(3, 1);
+    x.move(0, 3);
+    x.append('a');
+    x.lace();
+    x.turn();
+    x.pull();
+    x.restore();
+    for (int times = 0; times < 6; times++) {
+      x.undo();
+    }
+  }
+
   public static void main(String[] args) throws IOException {
     face();
     text(Path.of(args[0]));
+    room();
     System.out.println("RulesTests: " + passed + " passed, " + failed + " failed");
     if (failed != 0) {
       System.exit(1);
