@@ -382,7 +382,7 @@ public final class LaceTangles {
         return 31L * hash + value;
     }
 
-    /** Double.doubleToLongBits is not in the library that we keep to; a share lies from 0 to 1. */
+    /** Reckoned by hand, since LANGUAGE.md has no library for it; a share lies from 0 to 1. */
     private static long bitsOfShare(double share) {
         if (share <= 0.0) {
             return 0L;
