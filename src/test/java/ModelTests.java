@@ -180,7 +180,7 @@ public final class ModelTests {
 
   public static void main(String[] args) {
     for (int number = 0; number < 1200; number++) {
-      new ModelTests(number).run(480);
+      new ModelTests(number).run(420);
     }
     System.out.println("ModelTests: " + passed + " passed, " + failed + " failed");
     if (failed != 0) {
