@@ -15,7 +15,6 @@ final class Document {
   private static final String NOT_PROMISED = "Not promised";
   /** What names something and asks nothing of the class. */
   private static final List<String> ONLY_NAMES = List.of("Laces, crossings", "Undo, the snapshot");
-  private static final String SUMMARY = "Shoelace tangles undone by moves that keep a measure: ";
 
   private final Map<String, String> sections = new LinkedHashMap<>();
   private final Map<String, List<String>> quotes = new LinkedHashMap<>();
@@ -36,7 +35,7 @@ final class Document {
       } else if (line.startsWith("#")) {
         section = line.replaceFirst("^#+ ", "");
         sections.put(section, "");
-      } else if (!inCode && !ONLY_NAMES.contains(line) && !line.startsWith(SUMMARY)) {
+      } else if (!inCode && !ONLY_NAMES.contains(line)) {
         sections.merge(section, withoutFace(line) + "\n", String::concat);
       }
     }

@@ -10,6 +10,7 @@ public final class DocumentTests {
 
   public static void main(String[] args) throws IOException {
     Document document = new Document(Path.of(args[1]));
+    WhatItIsTests.say(document);
     TermsTests.say(document, Path.of(args[0]));
     CrossingsTests.say(document);
     TextsTests.say(document);

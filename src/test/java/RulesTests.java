@@ -5,10 +5,14 @@ import java.lang.reflect.Method;
 import java.lang.reflect.Modifier;
 import java.nio.file.Files;
 import java.nio.file.Path;
+import java.util.ArrayList;
+import java.util.List;
 import java.util.Set;
 import java.util.TreeSet;
+import java.util.regex.Matcher;
+import java.util.regex.Pattern;
 
-/** The face of the class, and what of LANGUAGE.md can be read off its text. Its argument: the class's file. */
+/** The face of the class, and what of LANGUAGE.md can be read off its text. Its arguments: the class's file and the document's. */
 public final class RulesTests {
   private static final String[] FACE = {
     "int append(int) throws IllegalArgumentException, IllegalStateException", "int bestMove()", "int clearBuffer()",
@@ -98,6 +102,44 @@ public final class RulesTests {
     check("the text has signs above 127", text.chars().allMatch(c -> c < 128));
   }
 
+  /** The document's own lines of the face, its parameters' names too, one behind the other in the class. */
+  private static void documentsFace(Path file, Path document) throws IOException {
+    String text = Files.readString(file);
+    String face = Files.readString(document).replaceFirst("(?s).*?```java\n(.*?)```.*", "$1");
+    int from = 0;
+    for (String line : face.split("\n")) {
+      // a constant ends as it does there, a call goes on with its body
+      String due = line.contains("(") ? line.trim().replaceFirst(";$", " {") : line.trim();
+      int found = text.indexOf(due, from);
+      check("the class does not go on with " + due, found >= 0);
+      from = Math.max(from, found);
+    }
+  }
+
+  /** How long, how wide and how large LANGUAGE.md's rule 11 lets methods and classes be. */
+  private static void shape(Path file) throws IOException {
+    List<Class<?>> classes = new ArrayList<>(List.of(LaceTangles.class.getDeclaredClasses()));
+    classes.add(LaceTangles.class);
+    for (Class<?> one : classes) {
+      int fields = 0;
+      for (Field field : one.getDeclaredFields()) {
+        fields += Modifier.isStatic(field.getModifiers()) ? 0 : 1;
+      }
+      check(one + " has " + fields + " fields", fields <= 20);
+      for (Method method : one.getDeclaredMethods()) {
+        check(method + " has too many parameters", method.getParameterCount() <= 7);
+      }
+    }
+    List<String> lines = Files.readAllLines(file);
+    for (int begin = 0; begin < lines.size(); begin++) {
+      Matcher head = Pattern.compile("( +)[A-Za-z].*\\(.*\\).* \\{").matcher(lines.get(begin));
+      if (head.matches()) {
+        int many = lines.subList(begin, lines.size()).indexOf(head.group(1) + "}");
+        check("60 lines are not enough for " + lines.get(begin).trim(), many < 60);
+      }
+    }
+  }
+
   /** All calls of a run live in one room, so even 512 of the dearest ones must make next to nothing. */
   private static void room() {
     LaceTangles x = new LaceTangles();
@@ -133,7 +175,9 @@ public final class RulesTests {
 
   public static void main(String[] args) throws IOException {
     face();
+    documentsFace(Path.of(args[0]), Path.of(args[1]));
     text(Path.of(args[0]));
+    shape(Path.of(args[0]));
     room();
     System.out.println("RulesTests: " + passed + " passed, " + failed + " failed");
     if (failed != 0) {

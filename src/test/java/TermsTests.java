@@ -3,12 +3,11 @@ import java.lang.reflect.Method;
 import java.nio.file.Files;
 import java.nio.file.Path;
 
-/** What the document says under "What it is" and "Terms", and what all promises rest on. */
+/** What the document says under "Terms": what all promises rest on. */
 final class TermsTests {
   private TermsTests() {}
 
   static void say(Document d, Path classFile) {
-    manyCalls(d);
     crossings(d);
     moves(d);
     measure(d);
@@ -18,28 +17,6 @@ final class TermsTests {
     texts(d);
     undo(d);
     exceptions(d, classFile);
-  }
-
-  private static void manyCalls(Document d) {
-    d.at("What it is");
-    d.says("An object is used for at most 512 calls after it has been made; what later calls answer is free.", () -> {
-      LaceTangles x = new LaceTangles();
-      x.keep();
-      Checks.lay(x, "acb");
-      for (int call = 5; call <= 508; call++) {
-        x.move(1, 0);
-      }
-      Checks.due("count(2), the 509th call,", x.count(2), 504);
-      Checks.due("undo(), the 510th call,", x.undo(), 5);
-      Checks.due("restore(), the 511th call,", x.restore(), 0);
-      Checks.due("cross(2), the 512th call,", x.cross(2), 1);
-      LaceTangles asked = Checks.laid("abA");
-      long digest = asked.digest();
-      for (int call = 5; call < 512; call++) {
-        asked.digest();
-      }
-      Checks.due("digest(), the 512th call,", asked.digest(), digest);
-    });
   }
 
   private static void crossings(Document d) {
