@@ -12,7 +12,10 @@ import java.util.TreeSet;
 import java.util.regex.Matcher;
 import java.util.regex.Pattern;
 
-/** The face of the class, and what of LANGUAGE.md can be read off its text. Its arguments: the class's file and the document's. */
+/**
+ * The face of the class, and what of LANGUAGE.md can be read off its text. Its arguments: the class's file and the
+ * document's.
+ */
 public final class RulesTests {
   private static final String[] FACE = {
     "int append(int) throws IllegalArgumentException, IllegalStateException", "int bestMove()", "int clearBuffer()",
